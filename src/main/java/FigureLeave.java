@@ -466,17 +466,13 @@ public final class FigureLeave {
 
     private static int wear(int kind, int k, int day) {
       switch (kind) {
-        case PROUD: return proudWear(k);
+        case PROUD: return PLAIN_WEAR + k;
         case LAZY: return LAZY_WEAR;
         case SUNDAY: return day % 7 == 6 ? 0 : PLAIN_WEAR;
-        case VAIN: return k == 0 ? 0 : proudWear(k) + 1;
+        case VAIN: return k == 0 ? 0 : PLAIN_WEAR + k + 1;
         case OLD: return day % 2 == 1 ? LAZY_WEAR + 1 : LAZY_WEAR;
         default: return PLAIN_WEAR;
       }
-    }
-
-    private static int proudWear(int k) {
-      return PLAIN_WEAR + k;
     }
 
     private static int rest(int kind, int worn) {
@@ -503,17 +499,15 @@ public final class FigureLeave {
     }
 
     private void addNumber(int n) {
-      if (n > 9) {
-        addSign(n / 10);
+      if (n < 0 || n >= NUMBERS || size > SIGNS - 2) {
+        return;
       }
-      addSign(n % 10);
-    }
-
-    private void addSign(int f) {
-      if (isFigure(f) && size < SIGNS) {
-        signs[size] = f;
+      if (n > 9) {
+        signs[size] = n / 10;
         size++;
       }
+      signs[size] = n % 10;
+      size++;
     }
   }
 
@@ -866,11 +860,6 @@ public final class FigureLeave {
     private int opens = 0;
     private int daysPlanned = 0;
 
-    private boolean putsItself(House h, int v) {
-      line.tell(v, v);
-      return h.puts(trial, line);
-    }
-
     private int cheapest(House h, int v) {
       int least = NONE;
       int found = NONE;
@@ -908,7 +897,8 @@ public final class FigureLeave {
     private int countOn(House h) {
       trial.become(h.shift);
       for (int v = 0; v < NUMBERS; v++) {
-        if (!putsItself(h, v)) {
+        line.tell(v, v);
+        if (!h.puts(trial, line)) {
           return v;
         }
       }
@@ -946,8 +936,11 @@ public final class FigureLeave {
     private boolean goTogether(House h, int bits) {
       trial.become(h.shift);
       for (int b = 0; h.bills.holds(b); b++) {
-        if ((bits >> b & 1) == 1 && !putsItself(h, h.bills.number[b])) {
-          return false;
+        if ((bits >> b & 1) == 1) {
+          line.tell(h.bills.number[b], h.bills.number[b]);
+          if (!h.puts(trial, line)) {
+            return false;
+          }
         }
       }
       return true;
@@ -1007,12 +1000,16 @@ public final class FigureLeave {
     private boolean holdsSoFar(House h, int bills, int days) {
       trial.become(h.shift);
       for (int day = 0; day < days; day++) {
+        if (day > 0) {
+          h.rests(trial);
+        }
         for (int i = 0; i < bills && i < MOST_BILLS; i++) {
-          if (chosenDay[i] == day && !putsItself(h, h.bills.number[openBills[i]])) {
+          int v = h.bills.number[openBills[i]];
+          line.tell(v, v);
+          if (chosenDay[i] == day && !h.puts(trial, line)) {
             return false;
           }
         }
-        h.rests(trial);
       }
       return true;
     }
@@ -1104,7 +1101,9 @@ public final class FigureLeave {
       trial.become(h.shift);
       for (int i = 0; i < days; i++) {
         x = (x * 1103515245L + 12345L) % 2147483648L;
-        if (putsItself(h, (int) (x / 65536 % NUMBERS))) {
+        int v = (int) (x / 65536 % NUMBERS);
+        line.tell(v, v);
+        if (h.puts(trial, line)) {
           written++;
         }
         h.rests(trial);
@@ -1196,7 +1195,7 @@ public final class FigureLeave {
 
   /** THE TEXT and the reading of it, token by token. */
   private static final class Text {
-    private static final int END = 0, WORD = 1, NUMBER = 2, STOP = 3, NOTHING = 4;
+    private static final int END = 0, WORD = 1, NUMBER = 2, STOP = 3, BLANK = 4, NOTHING = 5;
 
     private final int[] bytes = new int[MOST_BYTES];
     private final Line line = new Line();
@@ -1301,63 +1300,61 @@ public final class FigureLeave {
     }
 
     private void nextToken() {
-      while (at < size && byteAt(at) == ' ') {
+      while (at < size && sortAt(at) == BLANK) {
         at++;
       }
       place = at;
-      if (at >= size) {
-        sort = END;
-      } else if (isLetter(at)) {
-        sort = WORD;
-        passWord();
-      } else if (isDigit(at)) {
-        passNumber();
-      } else {
-        sort = byteAt(at) == ';' ? STOP : NOTHING;
-        at++;
-      }
-    }
-
-    private void passWord() {
-      while (at < size && isLetter(at)) {
-        at++;
-      }
-    }
-
-    private void passNumber() {
-      value = 0;
-      while (at < size && isDigit(at)) {
-        // Only one or two figures are a number; more of them need no value.
-        if (at - place < 2) {
-          value = 10 * value + byteAt(at) - '0';
+      sort = sortAt(at);
+      if (sort == WORD || sort == NUMBER) {
+        while (at < size && sortAt(at) == sort) {
+          at++;
         }
+      } else if (at < size) {
         at++;
       }
-      sort = at - place <= 2 ? NUMBER : NOTHING;
+      if (sort == NUMBER) {
+        weighNumber();
+      }
+    }
+
+    private void weighNumber() {
+      if (at - place > 2) {
+        sort = NOTHING;
+        return;
+      }
+      value = 0;
+      for (int i = place; i < at && i < MOST_BYTES; i++) {
+        value = 10 * value + bytes[i] - '0';
+      }
     }
 
     private boolean isWord(String word) {
-      if (at - place != word.length()) {
+      if (at - place != word.length() || at > MOST_BYTES) {
         return false;
       }
       for (int i = 0; i < word.length(); i++) {
-        if (byteAt(place + i) != word.charAt(i)) {
+        if (bytes[place + i] != word.charAt(i)) {
           return false;
         }
       }
       return true;
     }
 
-    private boolean isLetter(int i) {
-      return within(byteAt(i), 'a', 'z');
-    }
-
-    private boolean isDigit(int i) {
-      return within(byteAt(i), '0', '9');
-    }
-
-    private int byteAt(int i) {
-      return within(i, 0, MOST_BYTES - 1) ? bytes[i] : NONE;
+    private int sortAt(int i) {
+      if (i < 0 || i >= size || i >= MOST_BYTES) {
+        return END;
+      }
+      int c = bytes[i];
+      if (c >= 'a' && c <= 'z') {
+        return WORD;
+      }
+      if (c >= '0' && c <= '9') {
+        return NUMBER;
+      }
+      if (c == ' ') {
+        return BLANK;
+      }
+      return c == ';' ? STOP : NOTHING;
     }
   }
 }
