@@ -841,7 +841,7 @@ public final class FigureLeave {
         h = 31 * h + strength[f];
         h = 31 * h + shift.worn[f];
       }
-      for (int b = 0; bills.holds(b); b++) {
+      for (int b = 0; b < bills.size && b < MOST_BILLS; b++) {
         h = 31 * h + bills.number[b];
         h = 31 * h + bills.worth[b];
       }
@@ -849,7 +849,7 @@ public final class FigureLeave {
     }
   }
 
-  /** Says what can be written, on a shift of its own, so that the house stays as it is. */
+  /** Says what can be written; what it tries is tried on a shift of its own or taken back. */
   private static final class Clerk {
     private static final int PLAN_STEPS = 1000000;
 
@@ -935,7 +935,7 @@ public final class FigureLeave {
     /** Lines only ever wear more, so that all can be together if each can be behind the ones ahead. */
     private boolean goTogether(House h, int bits) {
       trial.become(h.shift);
-      for (int b = 0; h.bills.holds(b); b++) {
+      for (int b = 0; b < h.bills.size && b < MOST_BILLS; b++) {
         if ((bits >> b & 1) == 1) {
           line.tell(h.bills.number[b], h.bills.number[b]);
           if (!h.puts(trial, line)) {
@@ -948,7 +948,7 @@ public final class FigureLeave {
 
     private int planDays(House h) {
       opens = 0;
-      for (int b = 0; h.bills.holds(b); b++) {
+      for (int b = 0; b < h.bills.size && b < MOST_BILLS; b++) {
         if (!h.bills.isPaid(b) && opens < MOST_BILLS) {
           openBills[opens] = b;
           opens++;
@@ -1004,10 +1004,12 @@ public final class FigureLeave {
           h.rests(trial);
         }
         for (int i = 0; i < bills && i < MOST_BILLS; i++) {
-          int v = h.bills.number[openBills[i]];
-          line.tell(v, v);
-          if (chosenDay[i] == day && !h.puts(trial, line)) {
-            return false;
+          if (chosenDay[i] == day) {
+            int v = h.bills.number[openBills[i]];
+            line.tell(v, v);
+            if (!h.puts(trial, line)) {
+              return false;
+            }
           }
         }
       }
